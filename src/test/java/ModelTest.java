@@ -2,8 +2,9 @@ import java.util.Random;
 
 /** Long runs of calls, answered by the class and by the model; the seeds are fixed. */
 public final class ModelTest {
-    private static final int RUNS = 400;
-    private static final int CALLS = 500;
+    private static final int RUNS = 800;
+    private static final int CALLS = 360;
+    private static final int MOST_CALLS = 512;
     private static final int[] EDGES = {
         Integer.MIN_VALUE, -1, 0, 1, 7, 8, 15, 16, 47, 48, 255, 256, 383, 384, 767, 768,
         Integer.MAX_VALUE - 15, Integer.MAX_VALUE,
@@ -51,7 +52,7 @@ public final class ModelTest {
         while (calls < CALLS) {
             step();
         }
-        lookAtAll();
+        lookAtEnd();
         for (int doubted = 0; doubted <= 12; doubted++) {
             goodWith[doubted] += model.goodWith[doubted];
             lostWith[doubted] += model.lostWith[doubted];
@@ -187,22 +188,14 @@ public final class ModelTest {
         Due.is("run " + run + ", call " + calls + ": " + what, Due.answerOf(due), asked);
     }
 
-    /** More calls than the document's 512 here, but they only look. */
-    private void lookAtAll() {
+    /** Looks at the state the run came to, as far as the document's 512 calls go. */
+    private void lookAtEnd() {
         for (int k = 0; k < 7; k++) {
             int figure = k;
-            compare("figure " + k, () -> coder.figure(figure), () -> model.figure(figure));
+            compare("figure(" + k + ")", () -> coder.figure(figure), () -> model.figure(figure));
         }
-        for (int n = 0; n < 768; n++) {
-            int row = n / 16;
-            int place = n % 16;
-            compare("symbol " + n,
-                () -> coder.symbol(row, place), () -> model.symbol(row, place));
-        }
-        for (int n = 0; n < 384; n++) {
-            int i = n;
-            compare("out " + n, () -> coder.out(i), () -> model.out(i));
-            compare("flagged " + n, () -> coder.flagged(i), () -> model.flagged(i));
+        while (calls < MOST_CALLS) {
+            look();
         }
     }
 }
