@@ -26,6 +26,9 @@ public final class PromiseTest {
         readLosesWithFiveDoubted();
         readLosesUndoubtedNonWord();
         readFillsFourWhateverElse();
+        readKeepsWordBelowZero();
+        readLooksAtAllOuterSums();
+        readLooksAtAllInnerSums();
         out();
         flagged();
         figure();
@@ -331,6 +334,62 @@ public final class PromiseTest {
         }
     }
 
+    private static void readKeepsWordBelowZero() {
+        DiscCoder x = fed(20);
+        x.scratch(0, 7, 44);
+        x.scratch(0, 15, 1);
+        for (int number = 0; number < 4; number++) {
+            scratchOuter(x, number, 14, 1);
+            scratchOuter(x, number, 15, 1);
+        }
+        readAll(x);
+        dueSymbols("7: the outer word -1 stays", x, 4, new int[] {0, 0, 0, 0, 0, 0, 0, 44}, true);
+    }
+
+    private static void readLooksAtAllOuterSums() {
+        for (int k = 0; k < 4; k++) {
+            DiscCoder x = fed(30);
+            DiscCoder oneMore = fed(30);
+            int[] fault = faultOfOneSum(k);
+            for (int i = 0; i < 4; i++) {
+                scratchOuter(x, 9, 12 + i, fault[i]);
+                scratchOuter(oneMore, 9, 12 + i, fault[i]);
+            }
+            scratchOuter(oneMore, 9, 4, 100);
+            readAll(x);
+            readAll(oneMore);
+            dueFigures("7: sum " + k + " alone is not 0", x, 30, 240, 0, 1, 12, 0, 0);
+            dueFigures("7: as one fault but for sum " + k, oneMore, 30, 240, 0, 1, 12, 0, 0);
+        }
+    }
+
+    private static void readLooksAtAllInnerSums() {
+        for (int k = 0; k < 4; k++) {
+            DiscCoder x = fed(30);
+            int[] fault = faultOfOneSum(k);
+            for (int i = 0; i < 4; i++) {
+                // Symbol j of the inner word 7 is in the outer word 7 + j.
+                disguise(x, 7 + 8 + i, 8 + i, fault[i]);
+            }
+            readAll(x);
+            dueFigures("7: inner sum " + k + " alone is not 0", x, 30, 240, 0, 0, 0, 1, 8);
+            dueOutput("7: inner sum " + k + " alone is not 0", x, 19, 7, true);
+        }
+    }
+
+    /** The four last symbols of a row whose sum k is not 0 but whose other sums are. */
+    private static int[] faultOfOneSum(int k) {
+        // The product of all x + E(other), its coefficients from that of x^3 down.
+        int[] fault = {0, 0, 0, 1};
+        for (int other = 0; other < 4; other++) {
+            for (int i = 0; i < 4 && other != k; i++) {
+                int next = i < 3 ? fault[i + 1] : 0;
+                fault[i] = next ^ Model.polynomialProduct(fault[i], Model.e(other));
+            }
+        }
+        return fault;
+    }
+
     private static void out() {
         DiscCoder x = fed(20);
         Due.is("8: nothing read", INDEX, () -> x.out(0));
@@ -470,10 +529,14 @@ public final class PromiseTest {
         x.scratch(i % 2 == 0 ? number : number + 1, i, by);
     }
 
-    /** Makes the outer word of that number the word that differs at 3 and in the checks. */
     private static void disguise(DiscCoder x, int number) {
+        disguise(x, number, 3, 9);
+    }
+
+    /** Makes the outer word of that number the word that differs at i and in the checks. */
+    private static void disguise(DiscCoder x, int number, int place, int by) {
         int[] other = new int[12];
-        other[3] = 9;
+        other[place] = by;
         other = Model.wordFrom(other);
         for (int i = 0; i < 16; i++) {
             scratchOuter(x, number, i, other[i]);
