@@ -1,10 +1,5 @@
 /** Each promise by itself: ordinary inputs, the edges that the document names, wrong inputs. */
-public final class PromiseTest {
-    private static final String STATE = "throws.IllegalStateException";
-    private static final String ARGUMENT = "throws.IllegalArgumentException";
-    private static final String INDEX = "throws.IndexOutOfBoundsException";
-    private static final String NONE = "throws.NoSuchElementException";
-    private static final String DONE = "done";
+public final class PromiseTest extends Discs {
     private static final long BYTES_1_TO_8 = 0x0807060504030201L;
 
     public static void main(String[] args) {
@@ -377,19 +372,6 @@ public final class PromiseTest {
         }
     }
 
-    /** The four last symbols of a row whose sum k is not 0 but whose other sums are. */
-    private static int[] faultOfOneSum(int k) {
-        // The product of all x + E(other), its coefficients from that of x^3 down.
-        int[] fault = {0, 0, 0, 1};
-        for (int other = 0; other < 4; other++) {
-            for (int i = 0; i < 4 && other != k; i++) {
-                int next = i < 3 ? fault[i + 1] : 0;
-                fault[i] = next ^ Model.polynomialProduct(fault[i], Model.e(other));
-            }
-        }
-        return fault;
-    }
-
     private static void out() {
         DiscCoder x = fed(20);
         Due.is("8: nothing read", INDEX, () -> x.out(0));
@@ -491,86 +473,5 @@ public final class PromiseTest {
             Due.is("12: product(" + a + ", 0)", ARGUMENT, () -> x.product(a, 0));
             Due.is("12: product(0, " + a + ")", ARGUMENT, () -> x.product(0, a));
         }
-    }
-
-    private static long frame(int t) {
-        return (t + 1) * 0x9E3779B97F4A7C15L;
-    }
-
-    /** The data symbols of a frame: zeros for numbers below 0. */
-    private static int[] data(int t) {
-        return t < 0 ? new int[8] : Model.bytes(frame(t));
-    }
-
-    private static int[] outer(int t) {
-        int[] beginning = new int[12];
-        for (int j = 0; j < 12; j++) {
-            beginning[j] = Model.wordFrom(data(t - j))[j];
-        }
-        return Model.wordFrom(beginning);
-    }
-
-    private static DiscCoder fed(int frames) {
-        DiscCoder x = new DiscCoder();
-        for (int t = 0; t < frames; t++) {
-            x.feed(frame(t));
-        }
-        return x;
-    }
-
-    private static void readAll(DiscCoder x) {
-        for (int t = x.figure(0); t < x.rows(); t++) {
-            x.read();
-        }
-    }
-
-    /** Scratches symbol i of the outer word of that number. */
-    private static void scratchOuter(DiscCoder x, int number, int i, int by) {
-        x.scratch(i % 2 == 0 ? number : number + 1, i, by);
-    }
-
-    private static void disguise(DiscCoder x, int number) {
-        disguise(x, number, 3, 9);
-    }
-
-    /** Makes the outer word of that number the word that differs at i and in the checks. */
-    private static void disguise(DiscCoder x, int number, int place, int by) {
-        int[] other = new int[12];
-        other[place] = by;
-        other = Model.wordFrom(other);
-        for (int i = 0; i < 16; i++) {
-            scratchOuter(x, number, i, other[i]);
-        }
-    }
-
-    private static Object scratched(DiscCoder x, int row, int i, int by) {
-        x.scratch(row, i, by);
-        return DONE;
-    }
-
-    private static Object burst(DiscCoder x, int from, int many, int by) {
-        x.burst(from, many, by);
-        return DONE;
-    }
-
-    private static void dueFigures(String what, DiscCoder x, int... due) {
-        for (int k = 0; k < due.length; k++) {
-            int figure = k;
-            Due.is(what + ": figure(" + k + ")", due[k], () -> x.figure(figure));
-        }
-    }
-
-    private static void dueOutput(String what, DiscCoder x, int row, int frame, boolean flag) {
-        dueSymbols(what, x, row, data(frame), flag);
-    }
-
-    /** All symbols of a row's output but one flag alone: an object has 512 calls, no more. */
-    private static void dueSymbols(String what, DiscCoder x, int row, int[] due, boolean flag) {
-        for (int i = 0; i < 8; i++) {
-            int number = 8 * row + i;
-            Due.is(what + ": out(" + number + ")", due[i], () -> x.out(number));
-        }
-        int one = 8 * row + row % 8;
-        Due.is(what + ": flagged(" + one + ")", flag, () -> x.flagged(one));
     }
 }
