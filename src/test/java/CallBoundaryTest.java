@@ -54,6 +54,7 @@ public final class CallBoundaryTest extends Discs {
         checkOfLeastAndMostData();
         productOfNoSymbols();
         productAtTheEdges();
+        looksChangeNothing();
         Due.end("CallBoundaryTest");
     }
 
@@ -666,5 +667,22 @@ public final class CallBoundaryTest extends Discs {
             Due.is("12: product(" + line[0] + ", " + line[1] + ")", line[2],
                 () -> x.product(line[0], line[1]));
         }
+    }
+
+    // Promises 3, 4, 8, 9, 10 and 12 only answer: a look changes nothing either.
+    private static void looksChangeNothing() {
+        NoChange.is("3: rows()", 20, CallBoundaryTest::begun, DiscCoder::rows);
+        NoChange.is("4: symbol(0, 0)", data(0)[0], CallBoundaryTest::begun,
+            x -> x.symbol(0, 0));
+        NoChange.is("8: out(103)", data(0)[7], CallBoundaryTest::begun, x -> x.out(103));
+        // Symbol 10 of the outer word 2 is in the inner word read in row 4.
+        NoChange.is("9: flagged(39)", true, CallBoundaryTest::begun, x -> x.flagged(39));
+        int[] figures = {14, 112, 1, 1, 5, 1, 8};
+        for (int k = 0; k < 7; k++) {
+            int some = k;
+            NoChange.is("10: figure(" + k + ")", figures[k], CallBoundaryTest::begun,
+                x -> x.figure(some));
+        }
+        NoChange.is("12: product(2, 128)", 29, CallBoundaryTest::begun, x -> x.product(2, 128));
     }
 }
