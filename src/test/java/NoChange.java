@@ -18,7 +18,7 @@ final class NoChange {
         this.asked = asked;
     }
 
-    /** Looks at a call on a disc in that state, and at all that can be seen of the disc after it. */
+    /** Looks at a call on a disc in that state, and at all that can be seen of it afterwards. */
     static void is(String what, Object due, State state, Asked asked) {
         DiscCoder x = state.make();
         Due.is(what, due, () -> asked.answer(x));
