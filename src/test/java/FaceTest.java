@@ -4,6 +4,7 @@ import java.util.Arrays;
 import java.util.Set;
 import java.util.TreeSet;
 import java.util.stream.Collectors;
+import java.util.stream.Stream;
 
 /** The class has the document's face, and beside it private members alone. */
 public final class FaceTest {
@@ -34,6 +35,11 @@ public final class FaceTest {
         Due.is("classes inside that are not static", 0L,
             () -> Arrays.stream(face.getDeclaredClasses())
                 .filter(c -> !Modifier.isStatic(c.getModifiers())).count());
+        Due.is("classes inside that are seen outside", 0L,
+            () -> Arrays.stream(face.getDeclaredClasses())
+                .filter(c -> Modifier.isPublic(c.getModifiers())
+                    || Modifier.isProtected(c.getModifiers())).count());
+        Due.is("private methods named like a public one", Set.of(), () -> namedLikePublic(face));
         Due.end("FaceTest");
     }
 
@@ -42,6 +48,19 @@ public final class FaceTest {
             .filter(m -> !Modifier.isPrivate(m.getModifiers()))
             .map(FaceTest::line)
             .collect(Collectors.toCollection(TreeSet::new));
+    }
+
+    private static Set<String> namedLikePublic(Class<?> face) {
+        Set<String> open = Arrays.stream(face.getDeclaredMethods())
+            .filter(m -> Modifier.isPublic(m.getModifiers()))
+            .map(Method::getName)
+            .collect(Collectors.toSet());
+        return Stream.concat(Stream.of(face), Arrays.stream(face.getDeclaredClasses()))
+            .flatMap(c -> Arrays.stream(c.getDeclaredMethods()))
+            .filter(m -> !Modifier.isPublic(m.getModifiers()))
+            .map(Method::getName)
+            .filter(open::contains)
+            .collect(Collectors.toSet());
     }
 
     private static String line(Method m) {
